@@ -34,6 +34,29 @@ final class Checks {
         }
     }
 
+    /** As refused, and nothing that can be looked at may have changed. */
+    void refusedUnchanged(String what, Class<? extends RuntimeException> want, DecimalMenagerie m, Runnable call) {
+        String before = look(m);
+        refused(what, want, call);
+        due("what is there after " + what, look(m), before);
+    }
+
+    /** All numbers with their values, scales and modes, and the totals. */
+    static String look(DecimalMenagerie m) {
+        StringBuilder text = new StringBuilder();
+        for (int position = 0; position < m.count(); position++) {
+            int id = m.numberAt(position);
+            text.append(id).append('=').append(m.value(id)).append('/').append(m.scale(id)).append(m.mode(id)).append(' ');
+        }
+        return text + "crumbs " + m.crumbs() + " escapes " + m.escapes() + " accounts " + m.totalByAccounts();
+    }
+
+    static void append(DecimalMenagerie m, String text) {
+        for (int i = 0; i < text.length(); i++) {
+            m.append(text.charAt(i));
+        }
+    }
+
     int wrong() {
         return wrong;
     }
