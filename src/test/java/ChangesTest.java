@@ -239,15 +239,19 @@ final class ChangesTest {
         CHECKS.refusedUnchanged("no to before amount", NoSuchElementException.class, m, () -> m.trade(0, 3, -1, 0));
         CHECKS.refusedUnchanged("the same", IllegalArgumentException.class, m, () -> m.trade(0, 0, 1, 0));
         CHECKS.refusedUnchanged("the same before the value", IllegalArgumentException.class, m, () -> m.trade(0, 0, 900, 1));
+        promise6TradeRefusesAmounts(three());
+        CHECKS.refusedUnchanged("too much", IllegalStateException.class, m, () -> m.trade(0, 1, 12, 3500));
+        CHECKS.refusedUnchanged("value before step", IllegalStateException.class, m, () -> m.trade(0, 1, 12, 3401));
+        CHECKS.refusedUnchanged("step", UnsupportedOperationException.class, m, () -> m.trade(0, 1, 0, 10));
+    }
+
+    private static void promise6TradeRefusesAmounts(DecimalMenagerie m) {
         for (int bad : BAD_WHOLES) {
             CHECKS.refusedUnchanged("whole " + bad, IllegalArgumentException.class, m, () -> m.trade(0, 1, bad, 0));
         }
         for (int bad : BAD_FRACTIONS) {
             CHECKS.refusedUnchanged("fraction " + bad, IllegalArgumentException.class, m, () -> m.trade(0, 1, 0, bad));
         }
-        CHECKS.refusedUnchanged("too much", IllegalStateException.class, m, () -> m.trade(0, 1, 12, 3500));
-        CHECKS.refusedUnchanged("value before step", IllegalStateException.class, m, () -> m.trade(0, 1, 12, 3401));
-        CHECKS.refusedUnchanged("step", UnsupportedOperationException.class, m, () -> m.trade(0, 1, 0, 10));
     }
 
     private static void promise7SetScale() {
@@ -284,8 +288,9 @@ final class ChangesTest {
         CHECKS.due("all", Checks.look(m), "0=123400/2e 1=75000/1d 2=1000000/0u crumbs 0 escapes 0 accounts 1198400");
         CHECKS.refusedUnchanged("setMode(3)", NoSuchElementException.class, m, () -> m.setMode(3, 'd'));
         CHECKS.refusedUnchanged("number before mode", NoSuchElementException.class, m, () -> m.setMode(3, 'x'));
+        DecimalMenagerie other = three();
         for (char bad : BAD_MODES) {
-            CHECKS.refusedUnchanged("mode " + (int) bad, IllegalArgumentException.class, m, () -> m.setMode(0, bad));
+            CHECKS.refusedUnchanged("mode " + (int) bad, IllegalArgumentException.class, other, () -> other.setMode(0, bad));
         }
     }
 

@@ -57,6 +57,10 @@ final class Checks {
         }
     }
 
+    int made() {
+        return made;
+    }
+
     int wrong() {
         return wrong;
     }
